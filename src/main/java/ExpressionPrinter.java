@@ -1,5 +1,3 @@
-import java.util.Arrays;
-
 /**
  * A printer that writes expression trees with the fewest brackets, and an operator-precedence
  * (Pratt) parser that reads them back. The caller defines the operators and their levels.
@@ -790,13 +788,16 @@ public final class ExpressionPrinter {
     private static final class Writer {
         /** More pairs than any tree can have. */
         private static final int IMPOSSIBLE = 1000;
-        private static final int NOT_NEEDED = -1;
-        private static final int NEEDED = -2;
+        /** Marks a node whose pairs have to be counted; the count then takes the mark's place. */
+        private static final int NEEDED = -1;
 
         private final OperatorTable operators;
         private final NodeTable nodes;
         private final Text output;
-        /** The fewest pairs inside each node, if the node is the root or is bracketed. */
+        /**
+         * The fewest pairs inside each node of the tree, if the node is the root or is bracketed.
+         * With these counted once, the pairs of a node in any other place take a step for each node in it.
+         */
         private final int[] pairsInBrackets = new int[MAX_NODES];
         private boolean everyBracket;
 
@@ -815,7 +816,6 @@ public final class ExpressionPrinter {
         }
 
         private void markNeeded(int root) {
-            Arrays.fill(pairsInBrackets, NOT_NEEDED);
             mark(root);
             for (int node = Math.min(root, MAX_NODES - 1); node >= 0; node--) {
                 if (pairsInBrackets[node] == NEEDED) {

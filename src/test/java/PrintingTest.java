@@ -73,6 +73,7 @@ public final class PrintingTest {
         x.definePrefix('~', 3);
         printsAs(x, "a*((~b)+(~c))", "a*((~b)+~c)");
         printsAs(x, "(a*(~b))+c", "a*(~b)+c");
+        printsAs(x, "((~a)*(~b))+c", "(~a)*(~b)+c");
         printsAs(x, "(a*(b*(~c)))+d", "a*(b*~c)+d");
         ExpressionPrinter y = Check.usual();
         y.definePostfix('?', 4);

@@ -10,6 +10,7 @@ public final class TreesTest {
         binaryNodes();
         sizes();
         tooManyNodes();
+        hundredth();
         lookups();
         equality();
         sharedNodes();
@@ -99,10 +100,9 @@ public final class TreesTest {
         for (int size = 2; size <= 40; size++) {
             chain = x.unary(MINUS, chain);
         }
-        for (int node = 40; node < 98; node++) {
+        for (int node = 40; node < 99; node++) {
             check.due("11: leaf", x.leaf('b'), node);
         }
-        check.due("12: 99th", x.unary(MINUS, 0), 98);
         check.due("13: 100th", x.binary(PLUS, 0, 0), 99);
         check.due("11: 101st", x.leaf('b'), ExpressionPrinter.TOO_MANY);
         check.due("12: 101st", x.unary(MINUS, 0), ExpressionPrinter.TOO_MANY);
@@ -115,6 +115,20 @@ public final class TreesTest {
         check.due("13: node first", x.binary(PLUS, chain, 100), ExpressionPrinter.NO_SUCH_NODE);
         check.due("20: last node", Check.printed(x, 99), "a+a");
         check.due("20: 100", x.print(100), ExpressionPrinter.NO_SUCH_NODE);
+    }
+
+    private static void hundredth() {
+        for (int kind = 0; kind < 3; kind++) {
+            ExpressionPrinter x = Check.usual();
+            for (int node = 0; node < 99; node++) {
+                x.leaf('b');
+            }
+            int got = kind == 0 ? x.leaf('z') : kind == 1 ? x.unary(MINUS, 98) : x.binary(PLUS, 98, 0);
+            check.due("11 to 13: 100th", got, 99);
+            check.due("14: nodeCount", x.nodeCount(), 100);
+            check.due("20: the 100th", Check.printed(x, 99), kind == 0 ? "z" : kind == 1 ? "-b" : "b+b");
+            check.due("11: 101st", x.leaf('z'), ExpressionPrinter.TOO_MANY);
+        }
     }
 
     private static void lookups() {
