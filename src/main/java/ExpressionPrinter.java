@@ -234,9 +234,7 @@ public final class ExpressionPrinter {
         if (!nodes.has(node)) {
             return NO_SUCH_NODE;
         }
-        output.empty();
-        writer.prepare(node, everyBracket);
-        writer.writeNode(node, 0, 0, 0);
+        writer.writeAll(node, everyBracket);
         printedRoot = node;
         return output.length();
     }
@@ -807,12 +805,15 @@ public final class ExpressionPrinter {
             this.output = output;
         }
 
-        void prepare(int root, boolean withEveryBracket) {
+        /** Replaces the output by the text of a tree. */
+        void writeAll(int root, boolean withEveryBracket) {
             everyBracket = withEveryBracket;
             if (!everyBracket) {
                 markNeeded(root);
                 countNeeded(root);
             }
+            output.empty();
+            writeNode(root, 0, 0, 0);
         }
 
         private void markNeeded(int root) {
@@ -880,7 +881,7 @@ public final class ExpressionPrinter {
             return pairsInside(node, min, next, depth);
         }
 
-        void writeNode(int node, int min, int next, int depth) {
+        private void writeNode(int node, int min, int next, int depth) {
             if (depth >= MAX_SIZE) {
                 return;
             }

@@ -1,3 +1,5 @@
+import java.util.List;
+
 /** What the tests share: comparing answers, and short ways to make calls. */
 final class Check {
     private int wrong = 0;
@@ -19,6 +21,30 @@ final class Check {
         }
     }
 
+    /** Compares two lists of answers, and tells the first line in which they differ. */
+    void same(String call, List<String> got, List<String> want) {
+        asked++;
+        if (!got.equals(want)) {
+            wrong++;
+            int line = 0;
+            while (line < got.size() && line < want.size() && got.get(line).equals(want.get(line))) {
+                line++;
+            }
+            System.out.println(call + " changed " + (line < want.size() ? want.get(line) : "the end")
+                    + " to " + (line < got.size() ? got.get(line) : "the end"));
+        }
+    }
+
+    /** A call that is refused: it answers the error, and changes nothing that other calls show. */
+    void refused(String name, Probe.State state, Probe.Call call, int error) {
+        due(name, call.on(state.make()), error);
+        changesNothing(name, state, call);
+    }
+
+    void changesNothing(String name, Probe.State state, Probe.Call call) {
+        same(name, Probe.after(state, call), Probe.of(state));
+    }
+
     boolean allRight() {
         return wrong == 0;
     }
@@ -33,8 +59,10 @@ final class Check {
     /** The output as a text. */
     static String output(ExpressionPrinter x) {
         StringBuilder text = new StringBuilder();
-        for (int i = 0; x.outputAt(i) >= 0; i++) {
-            text.append((char) x.outputAt(i));
+        int sign = x.outputAt(0);
+        for (int i = 1; sign >= 0; i++) {
+            text.append((char) sign);
+            sign = x.outputAt(i);
         }
         return text.toString();
     }

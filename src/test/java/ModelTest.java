@@ -8,9 +8,11 @@ public final class ModelTest {
     private static final String SYMBOLS = "+-*/^!?~@#<>=&|$";
     /** Above this many choices, trying every bracketing takes too long. */
     private static final int MOST_CHOICES = 11;
+    private static final int MOST_CALLS = 512;
 
     private final Random random;
-    private final ExpressionPrinter x = new ExpressionPrinter();
+    private final ExpressionPrinter printer = new ExpressionPrinter();
+    private int calls = 0;
     private final Model model = new Model();
     private final List<Model.Tree> trees = new ArrayList<>();
     private String input = "";
@@ -26,11 +28,35 @@ public final class ModelTest {
     }
 
     public static void main(String[] args) {
-        int runs = args.length > 0 ? Integer.parseInt(args[0]) : 3000;
+        int runs = args.length > 0 ? Integer.parseInt(args[0]) : 8000;
         for (int seed = 0; seed < runs && check.allRight(); seed++) {
             new ModelTest(seed).run();
         }
         check.end("ModelTest");
+    }
+
+    /** Ends a run, since what an object answers after 512 calls is free. */
+    private static final class Worn extends RuntimeException {
+        private static final long serialVersionUID = 1;
+    }
+
+    /** The printer, for one call. */
+    private ExpressionPrinter x() {
+        if (calls == MOST_CALLS) {
+            throw new Worn();
+        }
+        calls++;
+        return printer;
+    }
+
+    private String readOutput() {
+        StringBuilder text = new StringBuilder();
+        int sign = x().outputAt(0);
+        for (int i = 1; sign >= 0; i++) {
+            text.append((char) sign);
+            sign = x().outputAt(i);
+        }
+        return text.toString();
     }
 
     private void due(String call, long got, long want) {
@@ -43,13 +69,16 @@ public final class ModelTest {
     }
 
     private void run() {
-        int first = 2 + random.nextInt(6);
-        for (int i = 0; i < first; i++) {
-            define();
-        }
-        int calls = 20 + random.nextInt(80);
-        for (int i = 0; i < calls && check.allRight(); i++) {
-            call();
+        try {
+            int first = 2 + random.nextInt(6);
+            for (int i = 0; i < first; i++) {
+                define();
+            }
+            while (check.allRight()) {
+                call();
+            }
+        } catch (Worn worn) {
+            check.due("calls of a run", calls, MOST_CALLS);
         }
     }
 
@@ -74,7 +103,7 @@ public final class ModelTest {
         int symbol = random.nextInt(30) == 0 ? random.nextInt(140) : SYMBOLS.charAt(random.nextInt(SYMBOLS.length()));
         int level = random.nextInt(30) == 0 ? random.nextInt(14) - 2 : 1 + random.nextInt(9);
         int kind = random.nextInt(3);
-        int got = kind == 0 ? x.defineInfix(symbol, level) : kind == 1 ? x.definePrefix(symbol, level) : x.definePostfix(symbol, level);
+        int got = kind == 0 ? x().defineInfix(symbol, level) : kind == 1 ? x().definePrefix(symbol, level) : x().definePostfix(symbol, level);
         boolean badSymbol = symbol < 33 || symbol > 126 || symbol >= 'a' && symbol <= 'z' || symbol == '(' || symbol == ')';
         boolean taken = model.operators.stream().anyMatch(o -> o.symbol == symbol && (o.kind == 1) == (kind == 1));
         int count = model.operators.size();
@@ -114,7 +143,7 @@ public final class ModelTest {
         int operator = anyOperator();
         int level = random.nextInt(11);
         int want = !isOperator(operator) ? -2 : level < 1 || level > 9 ? -4 : model.operators.get(operator).level;
-        due("setLevel(" + operator + ", " + level + ")", x.setLevel(operator, level), want);
+        due("setLevel(" + operator + ", " + level + ")", x().setLevel(operator, level), want);
         if (want >= 0) {
             model.operators.get(operator).level = level;
         }
@@ -125,7 +154,7 @@ public final class ModelTest {
         int associativity = random.nextInt(12) == 0 ? random.nextInt(6) - 2 : random.nextInt(3);
         boolean good = level >= 1 && level <= 9 && associativity >= 0 && associativity <= 2;
         int want = good ? model.associativity[level] : -4;
-        due("setAssociativity(" + level + ", " + associativity + ")", x.setAssociativity(level, associativity), want);
+        due("setAssociativity(" + level + ", " + associativity + ")", x().setAssociativity(level, associativity), want);
         if (good) {
             model.associativity[level] = associativity;
         }
@@ -136,7 +165,7 @@ public final class ModelTest {
         int inner = anyOperator();
         boolean value = random.nextInt(3) > 0;
         int want = !isOperator(outer) || !isOperator(inner) ? -2 : model.forbidden[outer][inner] ? 1 : 0;
-        due("setForbidden(" + outer + ", " + inner + ", " + value + ")", x.setForbidden(outer, inner, value), want);
+        due("setForbidden(" + outer + ", " + inner + ", " + value + ")", x().setForbidden(outer, inner, value), want);
         if (want >= 0) {
             model.forbidden[outer][inner] = value;
         }
@@ -145,7 +174,7 @@ public final class ModelTest {
     private void leaf() {
         int letter = random.nextInt(30) == 0 ? random.nextInt(140) : 'a' + random.nextInt(26);
         int want = letter < 'a' || letter > 'z' ? -3 : trees.size() == 100 ? -6 : trees.size();
-        due("leaf(" + letter + ")", x.leaf(letter), want);
+        due("leaf(" + letter + ")", x().leaf(letter), want);
         if (want >= 0) {
             Model.Tree tree = new Model.Tree();
             tree.letter = letter;
@@ -158,7 +187,7 @@ public final class ModelTest {
         int operand = anyNode();
         int want = !isOperator(operator) ? -2 : model.operators.get(operator).kind == 0 ? -8
                 : !isNode(operand) ? -1 : trees.get(operand).size() + 1 > 40 ? -7 : trees.size() == 100 ? -6 : trees.size();
-        due("unary(" + operator + ", " + operand + ")", x.unary(operator, operand), want);
+        due("unary(" + operator + ", " + operand + ")", x().unary(operator, operand), want);
         if (want >= 0) {
             addTree(operator, trees.get(operand));
         }
@@ -175,7 +204,7 @@ public final class ModelTest {
         int want = !isOperator(operator) ? -2 : model.operators.get(operator).kind != 0 ? -8
                 : !isNode(left) || !isNode(right) ? -1
                 : trees.get(left).size() + trees.get(right).size() + 1 > 40 ? -7 : trees.size() == 100 ? -6 : trees.size();
-        due("binary(" + operator + ", " + left + ", " + right + ")", x.binary(operator, left, right), want);
+        due("binary(" + operator + ", " + left + ", " + right + ")", x().binary(operator, left, right), want);
         if (want >= 0) {
             addTree(operator, trees.get(left), trees.get(right));
         }
@@ -190,31 +219,27 @@ public final class ModelTest {
 
     private void print() {
         int node = anyNode();
-        int got = x.print(node);
+        int got = x().print(node);
         if (!isNode(node)) {
             due("print(" + node + ")", got, -1);
             return;
         }
-        Model.Tree tree = trees.get(node);
-        String text = Check.output(x);
-        if (model.choices(tree) <= MOST_CHOICES) {
-            String want = model.fewest(tree);
-            story.append("; print(").append(node).append(")");
-            check.due(story.toString(), text, want);
+        printed = trees.get(node);
+        output = readOutput();
+        due("print(" + node + ")", got, output.length());
+        due("text " + output + " is read back", model.readsAs(output, printed) ? 1 : 0, 1);
+        if (model.choices(printed) <= MOST_CHOICES) {
+            check.due(story.toString(), output, model.fewest(printed));
         }
-        due("print(" + node + ")", got, text.length());
-        due("text " + text + " is read back", model.readsAs(text, tree) ? 1 : 0, 1);
-        output = text;
-        printed = tree;
-        for (int pair = 0; pair < x.bracketPairs(); pair++) {
-            due("pair " + pair + " is needed", x.readWithout(pair) == ExpressionPrinter.SAME_TREE ? 1 : 0, 0);
+        int pairs = comparePairs();
+        for (int pair = 0; pair < pairs; pair++) {
+            due("pair " + pair + " is needed", readWithout(pair, pairs) == ExpressionPrinter.SAME_TREE ? 1 : 0, 0);
         }
-        compareOutput();
     }
 
     private void printFull() {
         int node = anyNode();
-        int got = x.printFull(node);
+        int got = x().printFull(node);
         if (!isNode(node)) {
             due("printFull(" + node + ")", got, -1);
             return;
@@ -222,16 +247,17 @@ public final class ModelTest {
         printed = trees.get(node);
         output = model.full(printed);
         due("printFull(" + node + ")", got, output.length());
-        compareOutput();
+        check.due(story + "; output", readOutput(), output);
+        comparePairs();
     }
 
-    private void compareOutput() {
-        check.due(story + "; output", Check.output(x), output);
+    private int comparePairs() {
         int pairs = (int) output.chars().filter(c -> c == '(').count();
-        due("bracketPairs", x.bracketPairs(), pairs);
+        due("bracketPairs", x().bracketPairs(), pairs);
         for (int pair = -1; pair <= pairs; pair++) {
-            due("readWithout(" + pair + ")", x.readWithout(pair), readWithout(pair, pairs));
+            due("readWithout(" + pair + ")", x().readWithout(pair), readWithout(pair, pairs));
         }
+        return pairs;
     }
 
     private int readWithout(int pair, int pairs) {
@@ -249,21 +275,21 @@ public final class ModelTest {
     }
 
     private void parseOutput() {
-        due("copyOutput", x.copyOutput(), output.length());
+        due("copyOutput", x().copyOutput(), output.length());
         input = output;
         parse();
     }
 
     /** Mostly readable: operands and operators in turns, and now and then something else. */
     private void parseRandom() {
-        due("clearInput", x.clearInput(), input.length());
+        due("clearInput", x().clearInput(), input.length());
         int most = random.nextInt(12) == 0 ? 130 : 16;
         StringBuilder text = new StringBuilder();
         appendExpression(text, random.nextInt(most), random.nextInt(4) == 0);
         input = "";
         for (int i = 0; i < text.length(); i++) {
             int want = input.length() == 120 ? -7 : input.length() + 1;
-            due("append(" + (int) text.charAt(i) + ")", x.append(text.charAt(i)), want);
+            due("append(" + (int) text.charAt(i) + ")", x().append(text.charAt(i)), want);
             if (want >= 0) {
                 input += text.charAt(i);
             }
@@ -325,26 +351,27 @@ public final class ModelTest {
             errorKind = fault.kind;
             errorPosition = fault.position;
         }
-        due("parse of " + input, x.parse(), want);
-        due("errorKind", x.errorKind(), errorKind);
-        due("errorPosition", x.errorPosition(), errorPosition);
+        due("parse of " + input, x().parse(), want);
+        due("errorKind", x().errorKind(), errorKind);
+        due("errorPosition", x().errorPosition(), errorPosition);
     }
 
     private void compare() {
-        due("operatorCount", x.operatorCount(), model.operators.size());
-        due("nodeCount", x.nodeCount(), trees.size());
+        due("operatorCount", x().operatorCount(), model.operators.size());
+        due("nodeCount", x().nodeCount(), trees.size());
         int one = anyNode();
         int other = anyNode();
         boolean both = isNode(one) && isNode(other);
-        due("areEqual(" + one + ", " + other + ")", x.areEqual(one, other), !both ? -1 : trees.get(one).equalTo(trees.get(other)) ? 1 : 0);
-        for (int node = 0; node < trees.size(); node++) {
+        due("areEqual(" + one + ", " + other + ")", x().areEqual(one, other), !both ? -1 : trees.get(one).equalTo(trees.get(other)) ? 1 : 0);
+        for (int i = 0; i < Math.min(trees.size(), 3); i++) {
+            int node = random.nextInt(trees.size());
             Model.Tree tree = trees.get(node);
-            due("size(" + node + ")", x.size(node), tree.size());
-            due("letterOf(" + node + ")", x.letterOf(node), tree.operator == null ? tree.letter : -10);
-            due("operatorOf(" + node + ")", x.operatorOf(node), tree.operator == null ? -10 : model.operators.indexOf(tree.operator));
+            due("size(" + node + ")", x().size(node), tree.size());
+            due("letterOf(" + node + ")", x().letterOf(node), tree.operator == null ? tree.letter : -10);
+            due("operatorOf(" + node + ")", x().operatorOf(node), tree.operator == null ? -10 : model.operators.indexOf(tree.operator));
             for (int index = -1; index <= 2; index++) {
                 boolean there = index >= 0 && index < tree.operands.size();
-                int operand = x.operand(node, index);
+                int operand = x().operand(node, index);
                 boolean right = there ? isNode(operand) && trees.get(operand) == tree.operands.get(index) : operand == -10;
                 due("operand(" + node + ", " + index + ")", right ? 1 : 0, 1);
             }

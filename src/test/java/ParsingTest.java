@@ -188,6 +188,12 @@ public final class ParsingTest {
         check.due("28: an error comes first", Check.parsed(x, "-".repeat(60) + "a" + "!".repeat(58) + ")"), ExpressionPrinter.PARSE_ERROR);
         check.due("30: its position", x.errorPosition(), 119);
         check.due("14: nothing added", x.nodeCount(), 40);
+        tooManyForParse();
+    }
+
+    private static void tooManyForParse() {
+        ExpressionPrinter x = Check.usual();
+        check.due("28: 40", Check.parsed(x, "a" + "!".repeat(39)), 39);
         check.due("28: 80", Check.parsed(x, "-".repeat(39) + "a"), 79);
         check.due("28: 101", Check.parsed(x, "-".repeat(20) + "a"), ExpressionPrinter.TOO_MANY);
         check.due("28: large first", Check.parsed(x, "-".repeat(40) + "a"), ExpressionPrinter.TOO_LARGE);
@@ -201,15 +207,19 @@ public final class ParsingTest {
     }
 
     private static void deepTexts() {
-        ExpressionPrinter x = Check.usual();
-        check.due("28: 59 pairs", Check.parsed(x, "(".repeat(59) + "a" + ")".repeat(59)), 0);
-        check.due("28: one close too many", Check.fault(x, "(".repeat(59) + "a" + ")".repeat(60)), "4@119");
-        check.due("28: one close too few", Check.fault(x, "(".repeat(60) + "a" + ")".repeat(59)), "3@120");
-        check.due("28: 120 prefixes", Check.fault(x, "-".repeat(120)), "1@120");
-        check.due("28: 119 prefixes", Check.parsed(x, "-".repeat(119) + "a"), ExpressionPrinter.TOO_LARGE);
-        check.due("28: 60 infixes", Check.fault(x, "a^".repeat(60)), "1@120");
-        check.due("28: 59 infixes", Check.parsed(x, "a^".repeat(59) + "a"), ExpressionPrinter.TOO_LARGE);
-        check.due("28: 59 infixes", Check.parsed(x, "a+".repeat(59) + "a!"), ExpressionPrinter.TOO_LARGE);
-        check.due("14: nodeCount", x.nodeCount(), 1);
+        check.due("28: 59 pairs", Check.parsed(Check.usual(), "(".repeat(59) + "a" + ")".repeat(59)), 0);
+        String[][] faults = {
+            {"(".repeat(59) + "a" + ")".repeat(60), "4@119"}, {"(".repeat(60) + "a" + ")".repeat(59), "3@120"},
+            {"-".repeat(120), "1@120"}, {"a^".repeat(60), "1@120"},
+        };
+        for (String[] row : faults) {
+            check.due("28: " + row[0], Check.fault(Check.usual(), row[0]), row[1]);
+        }
+        String[] large = {"-".repeat(119) + "a", "a^".repeat(59) + "a", "a+".repeat(59) + "a!"};
+        for (String text : large) {
+            ExpressionPrinter x = Check.usual();
+            check.due("28: " + text, Check.parsed(x, text), ExpressionPrinter.TOO_LARGE);
+            check.due("14: nodeCount", x.nodeCount(), 0);
+        }
     }
 }

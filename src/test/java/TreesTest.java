@@ -167,21 +167,19 @@ public final class TreesTest {
     }
 
     private static void equality() {
-        ExpressionPrinter x = Check.usual();
-        x.definePrefix('+', 4);
-        x.definePostfix('?', 8);
         String[] texts = {"a", "b", "a+b", "b+a", "a*b", "+a", "-a", "a!", "a?", "-a!", "(-a)!", "a+b+c", "a+(b+c)", "a+a", "+b"};
-        int[] roots = new int[texts.length];
-        for (int i = 0; i < texts.length; i++) {
-            roots[i] = Check.parsed(x, texts[i]);
-        }
-        for (int i = 0; i < texts.length; i++) {
-            int again = Check.parsed(x, texts[i]);
-            for (int j = 0; j < texts.length; j++) {
-                check.due("19: " + texts[i] + " and " + texts[j], x.areEqual(again, roots[j]), i == j ? 1 : 0);
-                check.due("19: " + texts[j] + " and " + texts[i], x.areEqual(roots[j], again), i == j ? 1 : 0);
+        for (String text : texts) {
+            ExpressionPrinter x = Check.usual();
+            x.definePrefix('+', 4);
+            x.definePostfix('?', 8);
+            int one = Check.parsed(x, text);
+            for (String otherText : texts) {
+                int other = Check.parsed(x, otherText);
+                int want = text.equals(otherText) ? 1 : 0;
+                check.due("19: " + text + " and " + otherText, x.areEqual(one, other), want);
+                check.due("19: " + otherText + " and " + text, x.areEqual(other, one), want);
             }
-            check.due("19: itself", x.areEqual(again, again), 1);
+            check.due("19: itself", x.areEqual(one, one), 1);
         }
     }
 
