@@ -271,6 +271,9 @@ public final class ParseBoundariesTest {
         }
         check.refused("28: 41 of infixes", () -> typed(Check.usual(), "a+".repeat(20) + "a"), ExpressionPrinter::parse, -7);
         check.refused("28: 120", () -> typed(Check.usual(), "-".repeat(60) + "a" + "!".repeat(59)), ExpressionPrinter::parse, -7);
+        check.refused("28: 119 prefixes", () -> typed(Check.usual(), "-".repeat(119) + "a"), ExpressionPrinter::parse, -7);
+        check.refused("28: 119 postfixes", () -> typed(Check.usual(), "a" + "!".repeat(119)), ExpressionPrinter::parse, -7);
+        check.refused("28: 59 infixes", () -> typed(Check.usual(), "a^".repeat(59) + "-a"), ExpressionPrinter::parse, -7);
         check.refused("28: after an error", States::largeInput, ExpressionPrinter::parse, -7);
     }
 

@@ -10,6 +10,12 @@ public final class PrintBoundariesTest {
         noNodeTwice();
         fewestComeFirst();
         tiesInPreorder();
+        tiesWithPairsInside();
+        tiesUnderTheHundredthNode();
+        tiesFarBelowTheRoot();
+        lowestLevelAtTheEnd();
+        highestLevel();
+        operatorsOfToday();
         forbiddenIsBracketed();
         largestTrees();
         shortAfterLong();
@@ -109,6 +115,108 @@ public final class PrintBoundariesTest {
         check.due("20: no tie any more", printedAs(x, "(a*(b*(~c)))+d"), "a*(b*~c)+d");
         x.setForbidden(States.TIMES, States.TILDE, true);
         check.due("20: no choice any more", printedAs(x, "(a*(b*(~c)))+d"), "a*(b*(~c))+d");
+    }
+
+    /** The operators of Check.usual, and two more that make an outer pair worth as much as an inner one. */
+    private static ExpressionPrinter trading() {
+        ExpressionPrinter x = Check.usual();
+        x.definePostfix('?', 4);
+        x.definePrefix('@', 5);
+        return x;
+    }
+
+    /** The same sentence, where both ways have two pairs, one of them inside in either way. */
+    private static void tiesWithPairsInside() {
+        check.due("20: on the left", printedAs(trading(), "((p+q)*~b)+c"), "(p+q)*(~b)+c");
+        check.due("20: on the right", printedAs(trading(), "@((a?)*(p+q))"), "@(a?)*(p+q)");
+        check.due("20: of an infix", printedAs(trading(), "d*(@((a?)*(p+q)))"), "d*@(a?)*(p+q)");
+        ExpressionPrinter x = trading();
+        int shared = Check.parsed(x, "(p+q)*~b");
+        int sum = x.binary(States.PLUS, shared, x.leaf('c'));
+        check.due("20: by itself", Check.printed(x, shared), "(p+q)*~b");
+        check.due("20: as an operand", Check.printed(x, sum), "(p+q)*(~b)+c");
+        check.due("20: by itself again", Check.printed(x, shared), "(p+q)*~b");
+    }
+
+    /** The same, for a root that is the last node there can be, and for trees whose first node is node 0. */
+    private static void tiesUnderTheHundredthNode() {
+        String[] texts = {"((p+q)*~b)+c", "@((a?)*(p+q))", "c+(@((a?)*(p+q)))"};
+        String[] wants = {"(p+q)*(~b)+c", "@(a?)*(p+q)", "c+@(a?)*(p+q)"};
+        for (int i = 0; i < texts.length; i++) {
+            ExpressionPrinter x = trading();
+            int size = Check.parsed(x, texts[i]) + 1;
+            for (int node = size; node < 100 - size; node++) {
+                x.leaf('z');
+            }
+            check.due("28: the last node", x.parse(), 99);
+            check.due("20: the last node", Check.printed(x, 99), wants[i]);
+            check.due("20: the first nodes", Check.printed(x, size - 1), wants[i]);
+        }
+    }
+
+    /** The same, in trees of size 40, far below the root and far above the last leaf. */
+    private static void tiesFarBelowTheRoot() {
+        ExpressionPrinter x = Check.usual();
+        String prefixes = "~".repeat(20) + "-".repeat(14) + "a*(~b)+c";
+        check.due("20: under prefixes", printedAs(x, prefixes), prefixes);
+        check.due("18: their size", x.size(x.nodeCount() - 1), 40);
+        ExpressionPrinter y = Check.usual();
+        y.definePostfix('?', 1);
+        String postfixes = "a" + "!".repeat(14) + "*(~b)+c" + "?".repeat(20);
+        check.due("20: under postfixes", printedAs(y, postfixes), postfixes);
+        check.due("18: their size", y.size(y.nodeCount() - 1), 40);
+    }
+
+    /** "The level is 1 to 9": what reads on as far as can be needs no pair at the end, nor before a closing bracket. */
+    private static void lowestLevelAtTheEnd() {
+        ExpressionPrinter x = Check.usual();
+        x.definePrefix('@', 1);
+        x.defineInfix('=', 1);
+        x.definePostfix('?', 1);
+        x.setAssociativity(1, ExpressionPrinter.RIGHT);
+        String[] texts = {"a+(@b)", "(a+(@b))*c", "@(@a)", "-(@a)", "a=(b=c)", "(a=b)=c", "d*(a=(b=c))", "(@a)=b", "@(a=b)", "(a=b)?", "a=(b?)",
+            "(@a)?", "-(a?)", "((@a)+b)*(@c)"};
+        String[] wants = {"a+@b", "(a+@b)*c", "@@a", "-@a", "a=b=c", "(a=b)=c", "d*(a=b=c)", "(@a)=b", "@a=b", "(a=b)?", "a=b?",
+            "(@a)?", "-(a?)", "((@a)+b)*@c"};
+        for (int i = 0; i < texts.length; i++) {
+            check.due("20: " + texts[i], printedAs(x, texts[i]), wants[i]);
+        }
+    }
+
+    /** The same sentence at its other end: the right level of an operator of level 9 is 10. */
+    private static void highestLevel() {
+        ExpressionPrinter x = new ExpressionPrinter();
+        x.defineInfix('+', 9);
+        x.definePrefix('-', 9);
+        x.definePostfix('!', 9);
+        String[] texts = {"(a+b)+c", "a+(b+c)", "a+(b!)", "(a+b)!", "-(a+b)", "(-a)+b", "a+(-b)", "-(a!)", "(-a)!", "(a!)+b"};
+        String[] left = {"a+b+c", "a+(b+c)", "a+(b!)", "a+b!", "-a+b", "(-a)+b", "a+-b", "-a!", "(-a)!", "a!+b"};
+        String[] right = {"(a+b)+c", "a+b+c", "a+b!", "(a+b)!", "-a+b", "(-a)+b", "a+-b", "-a!", "(-a)!", "a!+b"};
+        for (int i = 0; i < texts.length; i++) {
+            x.setAssociativity(9, ExpressionPrinter.LEFT);
+            int root = Check.parsed(x, texts[i]);
+            check.due("20: left, " + texts[i], Check.printed(x, root), left[i]);
+            x.setAssociativity(9, ExpressionPrinter.RIGHT);
+            check.due("20: right, " + texts[i], Check.printed(x, root), right[i]);
+        }
+    }
+
+    /** "Changes the level of an operator.": a tree that was printed before is printed by the operators of now. */
+    private static void operatorsOfToday() {
+        ExpressionPrinter x = trading();
+        int root = Check.parsed(x, "((p+q)*~b)+c");
+        check.due("20: at first", Check.printed(x, root), "(p+q)*(~b)+c");
+        x.setLevel(States.TIMES, 4);
+        check.due("20: as low", Check.printed(x, root), "p+q*(~b)+c");
+        x.setLevel(States.TIMES, 1);
+        check.due("20: lower", Check.printed(x, root), "(p+q*~b)+c");
+        x.setLevel(States.TIMES, 5);
+        x.setLevel(States.TILDE, 9);
+        check.due("20: the prefix higher", Check.printed(x, root), "(p+q)*~b+c");
+        x.setForbidden(States.PLUS, States.TIMES, true);
+        check.due("20: forbidden", Check.printed(x, root), "((p+q)*~b)+c");
+        x.setForbidden(States.TIMES, States.TILDE, true);
+        check.due("20: both forbidden", Check.printed(x, root), "((p+q)*(~b))+c");
     }
 
     /** "a node with the inner operator must be bracketed wherever it is an operand of a node with the outer operator" */
