@@ -5,7 +5,7 @@ import java.util.stream.IntStream;
 /**
  * CONVENTIONS: "When several errors apply, the method returns the one that its Javadoc lists first."
  * and "A call that returns an error changes nothing, unless its Javadoc says otherwise."
- * Every method is called in many states with the arguments at its edges, in all combinations.
+ * Every method that can be refused is called in many states with the arguments at its edges, in all combinations.
  */
 public final class RefusedCallsTest {
     private static final int LEAST = Integer.MIN_VALUE, GREATEST = Integer.MAX_VALUE;
